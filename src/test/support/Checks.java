@@ -1,0 +1,59 @@
+/** Counts answers that are not as due, prints each, and ends the test with exit code 1 if any. */
+final class Checks {
+  private int made = 0;
+  private int wrong = 0;
+
+  void due(String call, long got, long want) {
+    made++;
+    if (got != want) {
+      wrong++;
+      System.out.println(call + " answered " + got + ", due is " + want);
+    }
+  }
+
+  void due(String call, boolean got, boolean want) {
+    due(call, got ? 1L : 0L, want ? 1L : 0L);
+  }
+
+  int wrongSoFar() {
+    return wrong;
+  }
+
+  void end() {
+    System.out.println(made + " answers looked at, " + wrong + " not as due");
+    if (wrong != 0 || made == 0) {
+      System.exit(1);
+    }
+  }
+
+  /** An object with so many LICENCES (without WORDS) and PACKAGES. */
+  static LicenceRules with(int licences, int packs) {
+    LicenceRules x = new LicenceRules();
+    for (int i = 0; i < licences; i++) {
+      x.licence(0L);
+    }
+    for (int i = 0; i < packs; i++) {
+      x.pack();
+    }
+    return x;
+  }
+
+  static int express(LicenceRules x, int pack, String text) {
+    for (int i = 0; i < text.length(); i++) {
+      x.type(text.charAt(i));
+    }
+    return x.express(pack);
+  }
+
+  /** All CHOICES of a PACKAGE as CODES: "0 9|18" has two CHOICES. */
+  static String form(LicenceRules x, int pack) {
+    StringBuilder all = new StringBuilder();
+    for (int i = 0; i < x.choices(pack); i++) {
+      all.append(i == 0 ? "" : "|");
+      for (int k = 0; x.pair(pack, i, k) != LicenceRules.NONE; k++) {
+        all.append(k == 0 ? "" : " ").append(x.pair(pack, i, k));
+      }
+    }
+    return all.toString();
+  }
+}
