@@ -2,12 +2,30 @@
 final class Checks {
   private int made = 0;
   private int wrong = 0;
+  private int sentences = 0;
+  private int madeBefore = 0;
+  private String sentence = "";
+
+  /** What is looked at from here on is about this sentence of the document. */
+  void about(String words) {
+    dueForSentence();
+    sentence = "[" + words + "] ";
+    sentences++;
+    madeBefore = made;
+  }
+
+  private void dueForSentence() {
+    if (sentences > 0 && made == madeBefore) {
+      wrong++;
+      System.out.println(sentence + "nothing was looked at");
+    }
+  }
 
   void due(String call, long got, long want) {
     made++;
     if (got != want) {
       wrong++;
-      System.out.println(call + " answered " + got + ", due is " + want);
+      System.out.println(sentence + call + " answered " + got + ", due is " + want);
     }
   }
 
@@ -15,11 +33,21 @@ final class Checks {
     due(call, got ? 1L : 0L, want ? 1L : 0L);
   }
 
+  /** The NORMAL FORM of a PACKAGE, written as form() does. */
+  void dueForm(String call, LicenceRules x, int pack, String want) {
+    String got = form(x, pack);
+    due(call + " (form " + got + " for " + want + ")", got.equals(want), true);
+  }
+
   int wrongSoFar() {
     return wrong;
   }
 
   void end() {
+    dueForSentence();
+    if (sentences > 0) {
+      System.out.println(sentences + " sentences");
+    }
     System.out.println(made + " answers looked at, " + wrong + " not as due");
     if (wrong != 0 || made == 0) {
       System.exit(1);
